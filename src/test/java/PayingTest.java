@@ -102,7 +102,7 @@ public final class PayingTest {
     c.rain(0, 9, 0, 100);
     Check.due("37: none is needed", c.settle(9), 0);
     Check.due("45: a debt needs no room", c.debt(1), 2);
-    Check.due("37: now the season pays the debt off, if it is rain that is left", c.debt(0), 1);
+    Check.due("45: a debt needs no room", c.debt(0), 1);
     for (int season = 10; season < 16; season++) c.rain(0, season, 0, 0);
     Check.due("37: just the debts", c.settle(10), 0);
     Check.due("45: none", c.debt(1), 0);
