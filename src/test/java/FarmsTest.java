@@ -135,6 +135,9 @@ public final class FarmsTest {
     Check.due("20: no gauge", c.of(0, 9, 0), -1);
     Check.due("20: no distance", c.of(0, 9, 2), -1);
     Check.due("20: no gauge pays 0", c.of(0, 9, 3), 0);
+    c.gauge(0, 99, 14);
+    Check.due("20: farthest", c.of(1, 14, 0), 3);
+    Check.due("20: farthest", c.of(1, 14, 2), 198);
     Check.due("20: farm", c.of(2, 0, 0), -5);
     Check.due("20: season", c.of(0, 16, 0), -5);
     Check.due("20: what", c.of(0, 0, 6), -5);
@@ -203,6 +206,7 @@ public final class FarmsTest {
     Check.due("22: what", c.line(0, 0, -1), RainCover.NONE);
     Check.due("22: d", c.line(0, 199, 0), RainCover.BAD);
     Check.due("22: d", c.line(0, -1, 0), RainCover.BAD);
+    Check.due("22: d 0", c.line(0, 0, 0), 0);
   }
 
   private static void linesByTermAndGauge() {

@@ -256,12 +256,27 @@ public final class PayingTest {
     Check.due("44: a third", c.complaint(0, 5), 3);
     Check.due("43: by its term and each one's plant", c.judge(0), 1);
     Check.due("43: the least above 0", c.payment(0, 2), 2 * 20);
+    c.complain(0, 1);
+    c.look(0, 1, 45, 0);
+    c.look(1, 1, 50, 0);
+    c.look(2, 1, 50, 0);
+    c.look(4, 1, 20, 0);
+    c.rain(0, 1, 0, 60);
+    c.rain(0, 1, 1, 50);
+    Check.due("43: as many are not, one by 0", c.judge(1), 0);
+    c.complain(0, 2);
+    c.look(0, 2, 45, 0);
+    c.look(2, 2, 47, 1);
+    c.look(4, 2, 40, 0);
+    c.rain(0, 2, 0, 60);
+    Check.due("43: two of three", c.judge(2), 1);
+    Check.due("43: not the one by 0", c.payment(1, 2), 2 * 5);
     c.complain(1, 0);
     c.look(2, 0, 0, 0);
     c.look(4, 0, 0, 0);
     c.look(0, 0, 60, 0);
-    Check.due("44: itself, too", c.complaint(1, 5), 4);
-    Check.due("43: as many are not", c.judge(1), 0);
+    Check.due("44: itself, too", c.complaint(3, 5), 4);
+    Check.due("43: as many are not", c.judge(3), 0);
   }
 
   private static void judgingWithoutGauge() {

@@ -39,6 +39,9 @@ public final class PricesTest {
     c.rain(0, 1, 5, -1);
     Check.due("27: five weeks are not known", c.mean(0, 0, 0, 0, 0), 89);
     Check.due("27: five weeks are not known", c.mean(0, 0, 0, 0, 1), 2);
+    c.rain(0, 4, 6, -1);
+    Check.due("27: of one", c.mean(0, 0, 0, 0, 0), 19);
+    Check.due("27: of one", c.mean(0, 0, 0, 0, 1), 1);
     Check.due("27: term", c.mean(1, 0, 0, 0, 0), RainCover.NO);
     Check.due("27: gauge", c.mean(0, 1, 0, 0, 0), RainCover.NO);
     Check.due("27: plant", c.mean(0, 0, 6, 0, 0), RainCover.NO);
@@ -61,6 +64,13 @@ public final class PricesTest {
     Check.due("28: own of 36", c.price(0, 0, 0, 0, 1), 36);
     c.law(3, 100);
     Check.due("28: own of 0", c.price(0, 0, 0, 0, 1), 0);
+    c.law(3, 99);
+    c.law(2, 41);
+    Check.due("28: 84.13", c.price(0, 0, 0, 0, 0), 85);
+    Check.due("28: own of 0.85", c.price(0, 0, 0, 0, 1), 1);
+    c.law(2, 68);
+    Check.due("28: 100.24", c.price(0, 0, 0, 0, 0), 101);
+    Check.due("28: own of 1.01", c.price(0, 0, 0, 0, 1), 2);
     c.law(2, 0);
     Check.due("28: no load", c.price(0, 0, 0, 0, 0), 60);
     c.law(2, 300);
@@ -92,6 +102,9 @@ public final class PricesTest {
     Check.due("29: of two", c.trend(0, 0, 0, 0, 1), 1);
     c.rain(0, 4, 0, -1);
     Check.due("29: of one", c.trend(0, 0, 0, 0, 0), RainCover.NO);
+    Check.even(c, 0, 0, 26);
+    Check.due("29: with season 0", c.trend(0, 0, 0, 0, 0), 1);
+    Check.due("29: with season 0", c.trend(0, 0, 0, 0, 1), 1);
     c = threeKnown();
     Check.due("29: term", c.trend(1, 0, 0, 0, 0), RainCover.NO);
     Check.due("29: gauge", c.trend(0, -1, 0, 0, 0), RainCover.NO);
@@ -115,6 +128,8 @@ public final class PricesTest {
       Check.due("30: then " + what, c.beside(0, 1, 0, 0, 0, what), then[what]);
       Check.due("30: turned " + what, c.beside(1, 0, 0, 0, 0, what), turned[what]);
     }
+    Check.even(c, 0, 0, 0);
+    Check.due("30: with season 0", c.beside(0, 1, 0, 0, 0, 0), 2);
     Check.due("30: first", c.beside(2, 0, 0, 0, 0, 0), RainCover.NONE);
     Check.due("30: second", c.beside(0, 2, 0, 0, 0, 0), RainCover.NONE);
     Check.due("30: gauge", c.beside(0, 0, 1, 0, 0, 0), RainCover.NONE);
@@ -134,6 +149,10 @@ public final class PricesTest {
     Check.due("31: how many", c.foretold(0, 0, 2, 0, 0, 0, 3), 3);
     Check.due("31: not itself", c.foretold(0, 0, 6, 0, 0, 0, 3), 2);
     Check.due("31: not itself", c.foretold(0, 0, 6, 0, 0, 0, 0), 70);
+    Check.even(c, 0, 0, 95);
+    Check.due("31: with season 0", c.foretold(0, 0, 2, 0, 0, 0, 3), 4);
+    Check.due("31: the least came first", c.foretold(0, 0, 2, 0, 0, 0, 0), 5);
+    Check.even(c, 0, 0, -1);
     c.rain(0, 2, 0, 45);
     for (int what = 0; what < 2; what++) Check.due("31: as it is", c.foretold(0, 0, 2, 1, 0, 0, what), 55);
     Check.due("31: week 12", c.foretold(0, 0, 2, 12, 0, 0, 2), 165);
@@ -152,15 +171,16 @@ public final class PricesTest {
 
   private static void foretoldByGreenAndPlant() {
     RainCover c = new RainCover();
-    c.gauge(0, 0, 0);
+    c.gauge(30, 0, 0);
     Check.term(c, "pay 5 if green 0 to 3 > 40");
     Check.term(c, "rate 1 per 1 below 1000 of sum 0 to 1 max 1000");
     Check.even(c, 0, 1, 10);
     Check.even(c, 0, 2, 100);
-    c.green(0, 1, 3, 50);
+    c.green(0, 0, 0, 99);
+    c.green(1, 1, 3, 50);
     Check.due("31: green of s", c.foretold(0, 0, 0, 3, 0, 0, 2), 5);
     Check.due("31: green ahead as it is", c.foretold(0, 0, 0, 4, 0, 0, 2), 0);
-    c.green(0, 0, 2, 60);
+    c.green(1, 0, 2, 60);
     Check.due("31: green ahead as it is", c.foretold(0, 0, 0, 3, 0, 0, 2), 10);
     Check.due("31: from that week on the other's", c.foretold(0, 0, 0, 2, 0, 0, 2), 5);
     c.rain(0, 0, 2, 7);

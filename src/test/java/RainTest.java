@@ -168,9 +168,11 @@ public final class RainTest {
     Check.due("10: mean, cut", c.filled(0, 5, 3, 9), 12);
     Check.due("10: mean as known", c.filled(0, 5, 3, 1), 11);
     Check.due("10: nothing", c.filled(0, 5, 5, 9), 0);
+    Check.due("10: nothing known yet", c.filled(0, 0, 3, 0), 0);
     c.rain(1, 5, 3, 70);
     Check.due("10: near, not standing", c.filled(0, 5, 3, 9), 70);
     Check.due("10: near, ahead of that", c.filled(0, 5, 3, 3), 12);
+    Check.due("10: the other way", c.filled(1, 0, 3, 9), 11);
     c.law(0, 39);
     Check.due("10: not near", c.filled(0, 5, 3, 9), 12);
     Check.due("10: k", c.filled(0, 5, 3, -1), -5);
@@ -211,6 +213,7 @@ public final class RainTest {
     c.rain(3, 0, 0, 9000);
     Check.due("11: least", c.span(0, 0, 0, 0), 1000);
     Check.due("11: greatest", c.span(0, 0, 0, 1), 2000);
+    Check.due("11: the other way", c.span(2, 0, 0, 0), 5000);
     Check.due("11: what", c.span(0, 0, 0, 2), -5);
     Check.due("11: what", c.span(0, 0, 0, -1), -5);
     Check.due("11: gauge", c.span(4, 0, 0, 0), -5);
@@ -250,7 +253,9 @@ public final class RainTest {
     for (int i = 0; i < 5; i++) d.green(0, 0, 0, 1);
     Check.due("8: not all 12 have room", d.lay(0, 0, 0, 2, 0), RainCover.FULL);
     Check.due("8: none of them told", d.count(1), 689);
-    for (int i = 690; i <= 700; i++) Check.due("5: the last ones", d.rain(0, 0, 0, 1), i);
+    for (int i = 690; i <= 699; i++) Check.due("5: the last ones", d.rain(0, 0, 0, 1), i);
+    Check.due("6: the last one", d.green(0, 0, 0, 1), 700);
     Check.due("5: full", d.rain(0, 0, 0, 1), RainCover.FULL);
+    Check.due("5: the first ones are known", d.told(0, 0, 0, 1), 0);
   }
 }

@@ -124,6 +124,11 @@ public final class TermsTest {
     Check.due("15: five in a row from 2 on", c.pay(2, 0, 0, 2, 2), 9);
     int[] notDry = {0, 9, 0, 9};
     for (int crop = 0; crop < 4; crop++) Check.due("15: dryness " + crop, c.pay(3, 0, 0, 0, crop), notDry[crop]);
+    Check.term(c, "pay 4 if dry 0 to 7 > 5");
+    int[] sixDry = {0, 0, 4, 0};
+    for (int crop = 0; crop < 4; crop++) Check.due("15: as much is not dry", c.pay(5, 0, 0, 0, crop), sixDry[crop]);
+    Check.term(c, "pay 4 if dry 5 to 7 > 2");
+    Check.due("15: as much is not dry", c.pay(6, 0, 0, 0, 2), 0);
     c.rain(0, 0, 2, 78);
     Check.due("15: sum is below", c.pay(0, 0, 0, 0, 0), 7);
   }
