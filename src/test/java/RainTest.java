@@ -257,5 +257,11 @@ public final class RainTest {
     Check.due("6: the last one", d.green(0, 0, 0, 1), 700);
     Check.due("5: full", d.rain(0, 0, 0, 1), RainCover.FULL);
     Check.due("5: the first ones are known", d.told(0, 0, 0, 1), 0);
+
+    RainCover e = new RainCover();
+    e.gauge(0, 0, 0);
+    for (int i = 1; i <= 700; i++) Check.due("5: row", e.rain(0, 0, 0, i), i);
+    Check.due("5: full", e.rain(0, 0, 0, 1), RainCover.FULL);
+    for (int k = 1; k <= 700; k++) Check.due("9: each moment", e.told(0, 0, 0, k), k);
   }
 }
