@@ -20,7 +20,12 @@ final class Check {
   }
 
   static void feed(RainCover cover, String text) {
-    for (int i = 0; i < text.length(); i++) cover.feed(text.charAt(i), 1);
+    for (int i = 0; i < text.length(); i += 4) {
+      int n = Math.min(4, text.length() - i);
+      int bytes = 0;
+      for (int j = i; j < i + n; j++) bytes = bytes << 8 | text.charAt(j);
+      cover.feed(bytes, n);
+    }
   }
 
   /** Tells the RAIN of all 12 WEEKS, those without a number being GAPS. */

@@ -260,8 +260,11 @@ public final class RainTest {
 
     RainCover e = new RainCover();
     e.gauge(0, 0, 0);
-    for (int i = 1; i <= 700; i++) Check.due("5: row", e.rain(0, 0, 0, i), i);
+    e.sheet(0, 2, 12);
+    for (int i = 0; i < 50; i++) e.lay(0, 1, 0, 2, 0);
+    for (int i = 601; i <= 700; i++) Check.due("5: row", e.rain(0, 0, 0, i), i);
     Check.due("5: full", e.rain(0, 0, 0, 1), RainCover.FULL);
-    for (int k = 1; k <= 700; k++) Check.due("9: each moment", e.told(0, 0, 0, k), k);
+    for (int k = 601; k <= 700; k++) Check.due("9: each moment", e.told(0, 0, 0, k), k);
+    for (int k = 1; k <= 50; k++) Check.due("9: far back", e.told(0, 1, 0, k), 0);
   }
 }

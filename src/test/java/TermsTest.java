@@ -71,13 +71,14 @@ public final class TermsTest {
       "pay 5 if week 1 < 1 and week 2 < 1 and week 3 < 1 and week 4 < 1234^5",
       "pay ^ 1", "^ pay 1",
     };
-    RainCover c = new RainCover();
     for (String text : marked) {
+      RainCover c = new RainCover();
       int fault = text.indexOf('^');
       Check.due("14: " + text, Check.term(c, text.replace("^", "")), -10 - fault);
       Check.due("14: the tape is empty", c.count(8), 0);
+      Check.due("14: no term came", c.count(2), 0);
     }
-    Check.due("14: no term came", c.count(2), 0);
+    RainCover c = new RainCover();
     c.feed(0x706179ff, 4);
     Check.due("14: a byte above 127", c.term(), -13);
   }
