@@ -457,6 +457,8 @@ final class EdgesOfFarms extends Edges {
     range(0, 2, NONE, what -> twoSides(24, 26).line(0, 2, what));
     due(ready().line(16, 199, 0), NONE);
     due(ready().line(0, -1, 3), NONE);
+    due(ready().line(0, 199, -1), NONE);
+    due(ready().line(-1, 199, 0), NONE);
 
     says(22, "(0 .. 198)", "BAD.");
     range(0, 198, BAD, d -> ready().line(0, d, 0));

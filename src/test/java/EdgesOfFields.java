@@ -146,6 +146,8 @@ final class EdgesOfFields extends Edges {
     int[] x = {20, 40, 60};
     for (int f = 1; f < 4; f++) c.farm(x[f - 1], 0, 0, 1);
     for (int f = 0; f < 4; f++) c.look(f, 0, 1, 0);
+    c.down(0, 5);
+    c.look(0, 5, 1, 0);
     range(0, 1, NO, term -> c.basis(term, 0, 0));
     range(0, 3, NO, band -> c.basis(0, band, 0));
     range(0, 1, NO, part -> c.basis(0, 0, part));

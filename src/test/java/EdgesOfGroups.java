@@ -91,6 +91,18 @@ final class EdgesOfGroups extends Edges {
       c.look(0, 0, 1, 0);
       shares(c, 0, shares[v[4]]);
     }
+    // One vote each: the lesser RULE of the two, not the one that nobody voted for.
+    for (int first = 1; first <= 2; first++) {
+      RainCover two = ready();
+      for (int f = 2; f < 4; f++) two.group(f, 0);
+      two.vote(2, first);
+      two.vote(3, 3 - first);
+      two.look(2, 0, 1, 0);
+      shares(two, 0, 25, 50, 100, 200);
+      two.vote(2, 2);
+      two.vote(3, 2);
+      shares(two, 0, 25, 50, 300, 0);
+    }
     // Votes of those that are in another GROUP, or in none, do not count.
     RainCover c = voting(1, 0, 0, 0);
     c.group(1, 2);

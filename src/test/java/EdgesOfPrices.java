@@ -194,6 +194,8 @@ final class EdgesOfPrices extends Edges {
     int[] pays = {0, 1, 40, 40, 90, 90, 90, 0, 0, 0};
     for (int i = 0; i < seasons.length; i++) known(c, seasons[i], pays[i]);
     for (int week = 0; week < 5; week++) c.rain(0, 11, week, 0);
+    c.gauge(99, 99, 0);
+    Check.even(c, 1, 0, 0);
     int[][][] due = {{{0, 1}, {3, 0, 3, 4}}, {{1, 0}, {0, 3, 3, 4}}, {{0, 2}, {5, 4, 1, 0}}, {{2, 0}, {4, 5, 1, 0}},
       {{1, 2}, {3, 5, 0, 2}}, {{0, 0}, {0, 0, 6, 4}}, {{3, 0}, {0, 6, 0, 4}}, {{3, 3}, {0, 0, 0, 10}}};
     for (int[][] d : due) {
@@ -203,7 +205,7 @@ final class EdgesOfPrices extends Edges {
     says(30, "NONE: none such.");
     range(0, 3, NONE, first -> c.beside(first, 0, 0, 0, 0, 0));
     range(0, 3, NONE, second -> c.beside(0, second, 0, 0, 0, 0));
-    range(0, 0, NONE, gauge -> c.beside(0, 1, gauge, 0, 0, 0));
+    range(0, 1, NONE, gauge -> c.beside(0, 1, gauge, 0, 0, 0));
     range(0, 5, NONE, plant -> c.beside(0, 1, 0, plant, 0, 0));
     range(0, 3, NONE, crop -> c.beside(0, 1, 0, 0, crop, 0));
     range(0, 3, NONE, what -> c.beside(0, 1, 0, 0, 0, what));
@@ -213,7 +215,7 @@ final class EdgesOfPrices extends Edges {
   /** TERM 0 pays what the whole SEASON is below 9999; SEASONS 0, 1, 15 are KNOWN, with 1, 10, 20 in each WEEK. */
   private static RainCover rows() {
     RainCover c = new RainCover();
-    c.gauge(0, 0, 0);
+    c.gauge(75, 30, 0);
     Check.term(c, "rate 1 per 1 below 9999 of sum 0 to 11 max 9999");
     Check.term(c, "pay 5 if green 3 to 5 > 40");
     Check.even(c, 0, 0, 1);
@@ -226,6 +228,8 @@ final class EdgesOfPrices extends Edges {
     says(31, "FORETOLD: what 0 .. 3, in the order told (0 each without such s).", "FORETOLD for a SEASON at a WEEK: for each "
         + "other SEASON s that is KNOWN of the GAUGE:", ": the least, the greatest, the sum, of how many s.");
     RainCover c = rows();
+    c.gauge(0, 99, 0);
+    Check.even(c, 1, 0, 700);
     for (int week = 0; week < 5; week++) c.rain(0, 7, week, 500);
     for (int week = 0; week <= 12; week++) {
       int one = 9999 - week - 10 * (12 - week);
@@ -239,10 +243,10 @@ final class EdgesOfPrices extends Edges {
     c.rain(0, 7, 11, 500);
     due(c.foretold(0, 0, 0, 0, 0, 0, 3), 3);
     due(c.foretold(0, 0, 7, 0, 0, 0, 3), 3);
-    c.gauge(99, 99, 0);
-    Check.even(c, 1, 3, 2);
-    for (int what = 0; what < 4; what++) due(c.foretold(0, 1, 3, 5, 0, 0, what), 0);
-    for (int what = 0; what < 4; what++) due(c.foretold(0, 1, 4, 12, 0, 0, what), what == 3 ? 1 : 9999 - 24);
+    c.gauge(0, 0, 0);
+    Check.even(c, 2, 3, 2);
+    for (int what = 0; what < 4; what++) due(c.foretold(0, 2, 3, 5, 0, 0, what), 0);
+    for (int what = 0; what < 4; what++) due(c.foretold(0, 2, 4, 12, 0, 0, what), what == 3 ? 1 : 9999 - 24);
   }
 
   private static void foretoldFilledAndGreen() {
@@ -261,11 +265,14 @@ final class EdgesOfPrices extends Edges {
 
     RainCover d = rows();
     for (int what = 0; what < 3; what++) due(d.foretold(1, 0, 0, 3, 0, 0, what), 0);
-    d.green(0, 1, 3, 41);
-    d.green(0, 0, 4, 99);
+    for (int district = 0; district < 3; district++) {
+      for (int week = 0; week < 12; week++) d.green(district, week % 2, week, 100);
+    }
+    d.green(3, 1, 3, 41);
+    d.green(3, 0, 4, 99);
     int[] sums = {5, 5, 5, 5, 0, 10, 10, 10, 10, 10, 10, 10, 10};
     for (int week = 0; week <= 12; week++) due(d.foretold(1, 0, 0, week, 0, 0, 2), sums[week]);
-    d.green(0, 15, 5, 41);
+    d.green(3, 15, 5, 41);
     due(d.foretold(1, 0, 0, 3, 0, 0, 2), 10);
     due(d.foretold(1, 0, 0, 4, 0, 0, 2), 5);
     due(d.foretold(1, 0, 0, 4, 1, 0, 2), 5);
@@ -480,6 +487,11 @@ final class EdgesOfPrices extends Edges {
     for (int q = 0; q < 16; q++) due(c.lasts(0, q, 1, 1), q >= 9 && q < 12 ? 1 : STATE);
     known(c, 4, 0);
     for (int q = 0; q < 16; q++) due(c.lasts(0, q, 1, 1), q < 5 || q >= 9 && q < 12 ? 1 : STATE);
+    // Known of a GAUGE that does not stand in q: it has no YEAR, and makes none of the others' one.
+    RainCover beside = ready();
+    beside.gauge(99, 99, 9);
+    for (int week = 0; week < 12; week++) beside.rain(1, 0, week, 0);
+    due(beside.lasts(0, 0, 1, 1), STATE);
     RainCover still = threeYears();
     still.lots(77);
     still.down(0, 8);

@@ -496,6 +496,32 @@ final class EdgesOfRain extends Edges {
     due(d.filled(0, 3, 5, 9), 0);
     d.rain(3, 3, 5, 90);
     due(d.filled(0, 3, 5, 9), 90);
+
+    // Each of two is NEAR the other, and neither its x nor its y alone decides.
+    RainCover e = new RainCover();
+    e.gauge(90, 10, 0);
+    e.gauge(70, 30, 0);
+    e.rain(0, 0, 0, 7);
+    e.rain(1, 0, 1, 8);
+    for (int reach = 39; reach <= 40; reach++) {
+      e.law(0, reach);
+      boolean near = reach == 40;
+      due(e.filled(1, 0, 0, 9), near ? 7 : 0);
+      due(e.filled(0, 0, 1, 9), near ? 8 : 0);
+      due(e.span(1, 0, 0, 0), near ? 7 : NONE);
+      due(e.span(0, 0, 1, 1), near ? 8 : NONE);
+    }
+
+    // With all 8 there is none behind the last one, though GREEN is told.
+    RainCover all = new RainCover();
+    for (int g = 0; g < 8; g++) all.gauge(0, g, 0);
+    for (int district = 0; district < 4; district++) all.green(district, 0, 0, 55);
+    for (int g = 0; g < 8; g++) {
+      due(all.filled(g, 0, 0, 9), 0);
+      due(all.span(g, 0, 0, 0), NONE);
+    }
+    all.rain(7, 0, 0, 3);
+    for (int g = 0; g < 8; g++) due(all.filled(g, 0, 0, 9), 3);
   }
 
   private static void filledByOtherSeasons() {
@@ -517,7 +543,8 @@ final class EdgesOfRain extends Edges {
     due(c.filled(0, 15, 5, 0), 0);
     c.rain(0, 13, 4, 900);
     c.rain(1, 13, 5, 900);
-    due(c.filled(0, 15, 5, 9), 5);
+    c.rain(1, 0, 5, 900);
+    due(c.filled(0, 15, 5, 99), 5);
     due(c.filled(0, 13, 5, 99), 0);
     due(c.filled(0, 12, 5, 99), 5);
     RainCover d = ready();
@@ -526,6 +553,11 @@ final class EdgesOfRain extends Edges {
     due(d.filled(0, 9, 0, 99), 9999);
     d.rain(1, 9, 0, 3);
     due(d.filled(0, 9, 0, 99), 3);
+    RainCover last = new RainCover();
+    for (int g = 0; g < 8; g++) last.gauge(99, 99, 0);
+    last.rain(7, 15, 5, 10);
+    for (int district = 0; district < 4; district++) last.green(district, 0, 5, 100);
+    due(last.filled(7, 3, 5, 99), 10);
   }
 
   private static void span() {
