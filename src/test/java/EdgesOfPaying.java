@@ -389,6 +389,17 @@ final class EdgesOfPaying extends Edges {
       due(c.of(0, 0, 5), 0);
       due(c.debt(0), 0);
     }
+    // DEBT is no matter of it: all is paid, and the DEBT stays.
+    RainCover owes = complaining(1);
+    owes.settle(0);
+    owes.rain(0, 0, 0, 90);
+    owes.settle(0);
+    due(owes.debt(0), 150);
+    owes.look(0, 0, 50, 0);
+    due(owes.judge(0), 1);
+    due(owes.payment(1, 2), 200);
+    due(owes.debt(0), 150);
+    due(owes.of(0, 0, 5), 50);
     RainCover most = new RainCover();
     most.gauge(0, 0, 0);
     Check.term(most, "pay 1 if week 0 > 0");

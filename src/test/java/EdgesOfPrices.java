@@ -13,6 +13,7 @@ final class EdgesOfPrices extends Edges {
     foretoldFilledAndGreen();
     foretoldRefused();
     income();
+    byPlantAndCrop();
     total();
     layer();
     throwsOfYears();
@@ -108,7 +109,7 @@ final class EdgesOfPrices extends Edges {
       {0, 1, 101, 0, 2, 2}, {1, 1, 0, 0, 1, 1}, {1, 1, 1, 0, 2, 2}, {1, 1, 100, 0, 2, 2}, {1, 1, 300, 0, 4, 4},
       {100, 100, 0, 0, 100, 100}, {100, 100, 0, 1, 100, 99}, {100, 100, 1, 1, 101, 100}, {100, 100, 0, 99, 100, 1},
       {100, 100, 0, 100, 100, 0}, {50, 50, 1, 50, 51, 26}, {99, 100, 0, 50, 100, 50}, {1, 1, 0, 99, 1, 1},
-      {1, 1, 0, 100, 1, 0}, {100, 100, 300, 100, 400, 0}, {100, 99, 300, 1, 398, 395}};
+      {1, 1, 0, 100, 1, 0}, {50, 50, 1, 1, 51, 51}, {0, 1, 0, 50, 1, 1}, {100, 100, 300, 100, 400, 0}, {100, 99, 300, 1, 398, 395}};
     for (int[] p : prices) {
       RainCover c = ready();
       known(c, 3, p[0]);
@@ -336,6 +337,43 @@ final class EdgesOfPrices extends Edges {
     range(0, 15, NONE, q -> covered().income(q));
   }
 
+  /** FARMS of each KIND at x 10, 30, 60, 90 with a GAUGE in the first DISTRICT; TERM 0 pays 10 for each dry WEEK 0. */
+  private static RainCover kinds() {
+    RainCover c = new RainCover();
+    c.law(2, 0);
+    c.gauge(0, 0, 0);
+    Check.term(c, "pay 10 if dry 0 to 0 > 0");
+    int[] x = {10, 30, 60, 90};
+    for (int f = 0; f < 4; f++) {
+      c.farm(x[f], 0, f, 1 << f);
+      c.enroll(f, 0, 0);
+    }
+    return c;
+  }
+
+  private static void byPlantAndCrop() {
+    // RAIN of all WEEKS, and which of the FARMS have it dry.
+    int[][] rains = {{59, 15}, {60, 7}, {79, 7}, {80, 5}, {99, 5}, {100, 4}, {119, 4}, {120, 0}};
+    for (int[] rain : rains) {
+      RainCover c = kinds();
+      Check.even(c, 0, 0, rain[0]);
+      says(32, "by their PLANT, CROP.");
+      due(c.income(3), 10 * rain[1]);
+      says(33, "over these AREA times PAY by their TERM and GAUGE in q");
+      due(c.total(0, 3), 10 * rain[1]);
+    }
+    for (int district = 0; district < 4; district++) {
+      RainCover c = kinds();
+      Check.season(c, 0, 0, 200, 200, 200, 0, 200, 200);
+      due(c.total(0, 3), 0);
+      c.plant(district, 3);
+      says(32, "by their PLANT, CROP.");
+      due(c.income(3), 10 << district);
+      says(33, "over these AREA times PAY by their TERM and GAUGE in q");
+      due(c.total(0, 3), 10 << district);
+    }
+  }
+
   private static void total() {
     says(33, "TOTAL of SEASON s for q.", "TOTAL of SEASON s for q: over these AREA times PAY by their TERM and GAUGE in q, on the "
         + "rows of s.");
@@ -465,6 +503,18 @@ final class EdgesOfPrices extends Edges {
     due(even.lasts(4949, 3, 40, 40), lasting(z, 4949, great, 40, 40));
     due(even.lasts(4950, 3, 40, 40), lasting(z, 4950, great, 40, 40));
     due(even.lasts(2000000000, 3, 40, 40), 40);
+    RainCover most = new RainCover();
+    most.gauge(0, 0, 0);
+    Check.term(most, "pay 9999 if week 0 < 1");
+    Check.even(most, 0, 0, 0);
+    for (int f = 0; f < 24; f++) {
+      most.farm(0, 0, 0, 99);
+      most.enroll(f, 0, 0);
+    }
+    most.law(2, 300);
+    due(most.income(0), 24 * 99 * 9999 * 4);
+    due(most.lasts(2000000000, 0, 40, 40), 40);
+    due(most.lasts(0, 0, 40, 40), 40);
   }
 
   private static void years() {
@@ -496,7 +546,14 @@ final class EdgesOfPrices extends Edges {
     still.lots(77);
     still.down(0, 8);
     due(still.lasts(0, 8, 40, 40), STATE);
-    due(still.lasts(0, 0, 3, 40), lasting(new int[] {77}, 0, new int[] {50, 0, -50}, 3, 40));
+    goesOnFrom(still, 77);
+  }
+
+  /** What each of the next throws of threeYears() is, one by one: it LASTS from 0 but for the third YEAR. */
+  private static void goesOnFrom(RainCover c, int told) {
+    int[] z = {told};
+    for (int i = 0; i < 20; i++) due(c.lasts(0, 0, 1, 1), lasting(z, 0, new int[] {50, 0, -50}, 1, 1));
+    for (int i = 0; i < 20; i++) due(c.lasts(49, 0, 2, 1), lasting(z, 49, new int[] {50, 0, -50}, 2, 1));
   }
 
   private static void lastsRefused() {
@@ -514,6 +571,6 @@ final class EdgesOfPrices extends Edges {
     c.lasts(-1, 0, 1, 1);
     c.lasts(0, 0, 41, 1);
     c.lasts(0, 16, 1, 1);
-    due(c.lasts(0, 0, 3, 40), lasting(new int[] {78}, 0, new int[] {50, 0, -50}, 3, 40));
+    goesOnFrom(c, 78);
   }
 }

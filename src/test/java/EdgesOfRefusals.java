@@ -139,7 +139,8 @@ final class EdgesOfRefusals extends Edges {
     for (int i = 0; i < 6; i++) told[n++] = c.price(i % 2, i / 2, 0, 0, 0);
     told[n++] = c.line(0, 198, 0);
     told[n++] = c.income(13);
-    told[n++] = c.lasts(60, 13, 3, 40);
+    // One of two YEARS lasts, so this tells the throws that z will give.
+    for (int i = 0; i < 12; i++) told[n++] = c.lasts(0, 13, 1, 1);
     for (int i = 0; i < 4; i++) told[n++] = c.law(i, 0);
     for (int i = 0; i < 4; i++) told[n++] = c.plant(i, 0);
     for (int i = 0; i < 3; i++) told[n++] = c.group(i, -1);
