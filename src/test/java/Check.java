@@ -38,6 +38,22 @@ final class Check {
     for (int week = 0; week < 12; week++) cover.rain(gauge, season, week, rain);
   }
 
+  /** How many of m rows last, by throws of YEARS and what each of these leaves; z[0] goes on. */
+  static int lasting(int[] z, long reserve, int[] leaves, int n, int m) {
+    int rows = 0;
+    for (int i = 0; i < m; i++) {
+      long rest = reserve;
+      long least = reserve;
+      for (int j = 0; j < n; j++) {
+        z[0] = z[0] * 1103515245 + 12345;
+        rest += leaves[(z[0] >>> 8) % leaves.length];
+        least = Math.min(least, rest);
+      }
+      if (least >= 0) rows++;
+    }
+    return rows;
+  }
+
   static void end() {
     System.out.println(asked + " answers, " + wrong + " not as due");
     if (wrong != 0) System.exit(1);

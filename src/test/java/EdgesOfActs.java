@@ -34,8 +34,9 @@ final class EdgesOfActs extends Edges {
   }
 
   private static void actsOfCrop() {
-    says(49, "An ACT of a FARM's CROP with x.", "ACTS of CROPS of FARMS, with x (wrapping): 0 drinks, 1 wilts, 2 yields; m the FARM's "
-        + "number, a its AREA.", "BODIES, each with its number: CROP: 10 drinks: x + a. 11 wilts: drinks(x) * 3. 12 yields: wilts(x) ^ "
+    says(49, "An ACT of a FARM's CROP with x.",
+        "ACTS of CROPS of FARMS, with x (wrapping): 0 drinks, 1 wilts, 2 yields; m the FARM's number, a its AREA.",
+        "BODIES, each with its number: CROP: 10 drinks: x + a. 11 wilts: drinks(x) * 3. 12 yields: wilts(x) ^ "
         + "drinks(x - 1).");
     for (int x : new int[] {0, 1, -1, -99, 1000}) {
       RainCover c = ready();
@@ -65,8 +66,9 @@ final class EdgesOfActs extends Edges {
   }
 
   private static void actsOfMaize() {
-    says(49, "MAIZE: 30 wilts: super.wilts(x) + 1. 31 yields: super.yields(x + 2).", "drinks(..) and so on: the body of the CROP's KIND, "
-        + "or, if that has none, of the next KIND above that has one; super.drinks(..): so from the KIND above the body's on.");
+    says(49, "MAIZE: 30 wilts: super.wilts(x) + 1. 31 yields: super.yields(x + 2).",
+        "drinks(..) and so on: the body of the CROP's KIND, or, if that has none, of the next KIND above that has "
+        + "one; super.drinks(..): so from the KIND above the body's on.");
     for (int x : new int[] {0, 1, -1, -99, 1000}) {
       RainCover c = ready();
       due(c.act(6, 0, x), x + 99 - 6);
@@ -108,7 +110,8 @@ final class EdgesOfActs extends Edges {
 
   private static void actRefused() {
     says(49, "0, and no TRACE then: no such FARM, act.");
-    int[][] refused = {{-1, 0}, {8, 0}, {24, 0}, {LOWEST, 0}, {HIGHEST, 0}, {0, -1}, {0, 3}, {0, LOWEST}, {0, HIGHEST}, {8, 3}};
+    int[][] refused = {{-1, 0}, {8, 0}, {24, 0}, {LOWEST, 0}, {HIGHEST, 0}, {0, -1}, {0, 3}, {0, LOWEST},
+      {0, HIGHEST}, {8, 3}};
     for (int[] r : refused) {
       RainCover c = ready();
       c.act(6, 2, 1);
@@ -128,8 +131,9 @@ final class EdgesOfActs extends Edges {
   }
 
   private static void trace() {
-    says(50, "THE TRACE's i-th body.", "THE TRACE: the numbers of the bodies that ran in the latest act(), in the order in which they "
-        + "began; the first 20 are kept.");
+    says(50, "THE TRACE's i-th body.",
+        "THE TRACE: the numbers of the bodies that ran in the latest act(), in the order in which they began; the "
+        + "first 20 are kept.");
     RainCover c = ready();
     ran(c);
     c.act(2, 2, 0);
@@ -169,8 +173,8 @@ final class EdgesOfActs extends Edges {
   }
 
   private static void count() {
-    says(52, "How many: 0 GAUGES, 1 TELLINGS, 2 TERMS, 3 FARMS, 4 COVERS, 5 LOOKED AT, 6 SITES, 7 PAYMENTS, 8 bytes of THE TAPE, 9 what "
-        + "the FUND has, 10 bodies that ran in the latest act(), 11 COMPLAINTS.");
+    says(52, "How many: 0 GAUGES, 1 TELLINGS, 2 TERMS, 3 FARMS, 4 COVERS, 5 LOOKED AT, 6 SITES, 7 PAYMENTS, 8 bytes "
+        + "of THE TAPE, 9 what the FUND has, 10 bodies that ran in the latest act(), 11 COMPLAINTS.");
     RainCover c = new RainCover();
     int[] due = new int[12];
     counts(c, due);

@@ -288,7 +288,8 @@ final class EdgesOfFarms extends Edges {
   }
 
   private static void due() {
-    says(21, "DUE, as known at k.", "DUE: AREA times PAY by the TERM by which it is COVERED in that SEASON; 0 if it is not.");
+    says(21, "DUE, as known at k.",
+        "DUE: AREA times PAY by the TERM by which it is COVERED in that SEASON; 0 if it is not.");
     RainCover c = ready();
     c.farm(0, 0, 0, 1);
     c.farm(0, 0, 0, 99);
@@ -318,8 +319,8 @@ final class EdgesOfFarms extends Edges {
   }
 
   private static void duePlantAndCrop() {
-    says(21, "PAY of a FARM (in a SEASON, by a TERM, as known at k): by its GAUGE then, its PLANT, CROP (as they are now); "
-        + "0 without a GAUGE.");
+    says(21, "PAY of a FARM (in a SEASON, by a TERM, as known at k): by its GAUGE then, its PLANT, CROP (as they are "
+        + "now); 0 without a GAUGE.");
     RainCover c = new RainCover();
     c.gauge(24, 0, 0);
     c.gauge(25, 0, 4);
@@ -379,8 +380,8 @@ final class EdgesOfFarms extends Edges {
   }
 
   private static void line() {
-    says(22, "OVER THE LINE in a SEASON: two FARMS COVERED by one TERM, DISTANCE d at most, with unlike GAUGES (none is "
-        + "unlike any) and unlike PAY (as known now: at how many TELLINGS there are).");
+    says(22, "OVER THE LINE in a SEASON: two FARMS COVERED by one TERM, DISTANCE d at most, with unlike GAUGES (none "
+        + "is unlike any) and unlike PAY (as known now: at how many TELLINGS there are).");
     RainCover c = twoSides(24, 26);
     due(c.line(0, 1, 0), 0);
     due(c.line(0, 2, 0), 1);
@@ -437,8 +438,9 @@ final class EdgesOfFarms extends Edges {
   }
 
   private static void lineOfTwos() {
-    says(22, "OVER THE LINE by DISTANCE d", ": how many twos of FARMS (what 0); of the first one (by the lesser FARM, then "
-        + "the greater) the lesser (1), the greater (2; NONE).");
+    says(22, "OVER THE LINE by DISTANCE d",
+        ": how many twos of FARMS (what 0); of the first one (by the lesser FARM, then the greater) the lesser (1), "
+        + "the greater (2; NONE).");
     RainCover c = twoSides(40, 26, 30, 24, 20);
     int[][] due = {{0, 0, -1, -1}, {1, 0, -1, -1}, {2, 1, 1, 3}, {5, 1, 1, 3}, {6, 3, 1, 3}, {10, 4, 1, 3},
       {15, 4, 1, 3}, {16, 5, 0, 3}, {20, 6, 0, 3}, {198, 6, 0, 3}};

@@ -179,8 +179,8 @@ final class EdgesOfFields extends Edges {
   }
 
   private static void far() {
-    says(26, "FAR for a set of SITES: over all FARMS AREA times DISTANCE to the nearest of these and all GAUGES STANDING in "
-        + "SEASON 15 (0 if there are none).");
+    says(26, "FAR for a set of SITES: over all FARMS AREA times DISTANCE to the nearest of these and all GAUGES "
+        + "STANDING in SEASON 15 (0 if there are none).");
     RainCover c = new RainCover();
     due(c.best(0, 0), 0);
     c.farm(0, 0, 0, 99);
@@ -230,8 +230,8 @@ final class EdgesOfFields extends Edges {
   }
 
   private static void bestOfSeveral() {
-    says(26, "BEST n: of all sets of n SITES that with the least FAR, of several that which has the lesser SITE where they "
-        + "first differ (in rising order).");
+    says(26, "BEST n: of all sets of n SITES that with the least FAR, of several that which has the lesser SITE "
+        + "where they first differ (in rising order).");
     RainCover none = new RainCover();
     for (int i = 0; i < 8; i++) none.site(i, 0);
     for (int n = 1; n <= 4; n++) {

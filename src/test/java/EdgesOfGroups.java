@@ -61,7 +61,8 @@ final class EdgesOfGroups extends Edges {
   }
 
   private static void vote() {
-    says(47, "It votes for a RULE: for which it did.", "it votes for a RULE (0 evenly, 1 by AREA, 2 by LOSS; 0 at first).");
+    says(47, "It votes for a RULE: for which it did.",
+        "it votes for a RULE (0 evenly, 1 by AREA, 2 by LOSS; 0 at first).");
     RainCover c = ready();
     for (int f = 0; f < 4; f++) due(c.vote(f, 2), 0);
     due(c.vote(0, 1), 2);
@@ -83,8 +84,9 @@ final class EdgesOfGroups extends Edges {
   private static void rule() {
     says(48, "THE RULE of a GROUP: that with most votes, of several the least number.");
     // Votes of the four FARMS, then THE RULE.
-    int[][] votes = {{0, 0, 0, 0, 0}, {1, 1, 1, 1, 1}, {2, 2, 2, 2, 2}, {0, 0, 1, 1, 0}, {0, 0, 2, 2, 0}, {1, 1, 2, 2, 1},
-      {2, 2, 1, 1, 1}, {1, 1, 0, 0, 0}, {0, 1, 2, 2, 2}, {0, 1, 1, 2, 1}, {0, 1, 2, 0, 0}, {2, 2, 2, 0, 2}, {1, 2, 1, 1, 1}};
+    int[][] votes = {{0, 0, 0, 0, 0}, {1, 1, 1, 1, 1}, {2, 2, 2, 2, 2}, {0, 0, 1, 1, 0}, {0, 0, 2, 2, 0},
+      {1, 1, 2, 2, 1}, {2, 2, 1, 1, 1}, {1, 1, 0, 0, 0}, {0, 1, 2, 2, 2}, {0, 1, 1, 2, 1}, {0, 1, 2, 0, 0},
+      {2, 2, 2, 0, 2}, {1, 2, 1, 1, 1}};
     int[][] shares = {{94, 94, 94, 93}, {25, 50, 100, 200}, {375, 0, 0, 0}};
     for (int[] v : votes) {
       RainCover c = voting(v[0], v[1], v[2], v[3]);
@@ -115,8 +117,9 @@ final class EdgesOfGroups extends Edges {
   }
 
   private static void shareEvenly() {
-    says(48, "SHARE.", "SHARE of a FARM in a SEASON: of the sum of DUE (as known now) of its GROUP: each one gets the whole part by the "
-        + "RULE", "of what is left over each one, by numbers, gets 1.", "(Without a GROUP: its DUE.)");
+    says(48, "SHARE.",
+        "SHARE of a FARM in a SEASON: of the sum of DUE (as known now) of its GROUP: each one gets the whole part by "
+        + "the RULE", "of what is left over each one, by numbers, gets 1.", "(Without a GROUP: its DUE.)");
     RainCover c = ready();
     shares(c, 0, 25, 50, 100, 200);
     for (int f = 0; f < 4; f++) {

@@ -39,14 +39,15 @@ final class EdgesOfPaying extends Edges {
   }
 
   private static void settle() {
-    says(37, "A SEASON is SETTLED: how many PAYMENTS came.", "OWED is DUE (as known now) less what is SETTLED of that FARM and "
-        + "SEASON (0 at first; behind this DUE).", "Above 0: of it goes off its DEBT, as far as there is one; of what is left, if it "
-        + "is above 0, there is a PAYMENT, WAITING.", "Below 0: its DEBT grows by that.");
+    says(37, "A SEASON is SETTLED: how many PAYMENTS came.",
+        "OWED is DUE (as known now) less what is SETTLED of that FARM and SEASON (0 at first; behind this DUE).",
+        "Above 0: of it goes off its DEBT, as far as there is one; of what is left, if it is above 0, there is a "
+        + "PAYMENT, WAITING.", "Below 0: its DEBT grows by that.");
     // RAIN, then how many come, what is SETTLED, DEBT, how many PAYMENTS there are, how much the last one is.
     int[][] steps = {{100, 0, 0, 0, 0, -5}, {99, 1, 5, 0, 1, 5}, {99, 0, 5, 0, 1, 5}, {60, 1, 200, 0, 2, 195},
       {61, 0, 195, 5, 2, 195}, {61, 0, 195, 5, 2, 195}, {80, 0, 100, 100, 2, 195}, {79, 0, 105, 95, 2, 195},
-      {60, 0, 200, 0, 2, 195}, {59, 1, 205, 0, 3, 5}, {100, 0, 0, 205, 3, 5}, {58, 1, 210, 0, 4, 5}, {100, 0, 0, 210, 4, 5},
-      {0, 1, 500, 0, 5, 290}};
+      {60, 0, 200, 0, 2, 195}, {59, 1, 205, 0, 3, 5}, {100, 0, 0, 205, 3, 5}, {58, 1, 210, 0, 4, 5},
+      {100, 0, 0, 210, 4, 5}, {0, 1, 500, 0, 5, 290}};
     RainCover c = ready();
     for (int[] step : steps) {
       c.rain(0, 3, 0, step[0]);
@@ -153,7 +154,8 @@ final class EdgesOfPaying extends Edges {
   }
 
   private static void payment() {
-    says(38, "Of a PAYMENT: 0 the FARM, 1 the SEASON, 2 how much, 3 STATE.", "STATES: 0 WAITING, 1 SENT, 2 LOST, 3 GOT.");
+    says(38, "Of a PAYMENT: 0 the FARM, 1 the SEASON, 2 how much, 3 STATE.",
+        "STATES: 0 WAITING, 1 SENT, 2 LOST, 3 GOT.");
     RainCover c = owing();
     c.fund(1000);
     int[] due = {0, 0, 200};
@@ -212,7 +214,8 @@ final class EdgesOfPaying extends Edges {
   }
 
   private static void send() {
-    says(40, "A PAYMENT is SENT: 1.", "pays what is SENT;", "STATE: it is not WAITING, LOST, or the FUND has too little.");
+    says(40, "A PAYMENT is SENT: 1.", "pays what is SENT;",
+        "STATE: it is not WAITING, LOST, or the FUND has too little.");
     RainCover c = owing();
     due(c.send(0), STATE);
     c.fund(199);
@@ -305,8 +308,9 @@ final class EdgesOfPaying extends Edges {
   }
 
   private static void complain() {
-    says(42, "A COMPLAINT: its number.", "COMPLAINTS 0 .. 19, as they come, of a FARM and a SEASON in which it is COVERED (one of "
-        + "each at most).", "STATE: the FARM is not COVERED then, or has one of that SEASON;");
+    says(42, "A COMPLAINT: its number.",
+        "COMPLAINTS 0 .. 19, as they come, of a FARM and a SEASON in which it is COVERED (one of each at most).",
+        "STATE: the FARM is not COVERED then, or has one of that SEASON;");
     RainCover c = ready();
     c.farm(0, 0, 0, 1);
     c.enroll(1, 0, 8);
@@ -367,14 +371,16 @@ final class EdgesOfPaying extends Edges {
   }
 
   private static void judge() {
-    says(43, "It is JUDGED: 1 RIGHT, 0 not.", "one of KIN is HURT by how much LOSS less DOUBT is above PAY (now) of that FARM by the "
-        + "TERM of the COMPLAINT.", "It is RIGHT if more of KIN are HURT by more than 0 than are not; then there is a PAYMENT, "
-        + "WAITING: its AREA times the least by which one of KIN is HURT that is above 0.");
+    says(43, "It is JUDGED: 1 RIGHT, 0 not.",
+        "one of KIN is HURT by how much LOSS less DOUBT is above PAY (now) of that FARM by the TERM of the COMPLAINT.",
+        "It is RIGHT if more of KIN are HURT by more than 0 than are not; then there is a PAYMENT, WAITING: its AREA "
+        + "times the least by which one of KIN is HURT that is above 0.");
     // LOSS and DOUBT of each of KIN, and what is paid for one AREA (0: it is not RIGHT).
-    int[][][] looks = {{{0}}, {{40, 0}, {0}}, {{41, 0}, {1}}, {{39, 0}, {0}}, {{9999, 9958}, {1}}, {{9999, 9959}, {0}},
-      {{9999, 9999}, {0}}, {{9999, 0}, {9959}}, {{0, 9999}, {0}}, {{90, 0, 40, 0}, {0}}, {{90, 0, 41, 0}, {1}},
-      {{90, 0, 0, 0, 70, 0}, {30}}, {{90, 0, 0, 0, 40, 0}, {0}}, {{41, 1, 60, 20, 90, 0}, {0}}, {{41, 1, 60, 18, 90, 0}, {2}},
-      {{45, 0, 44, 0, 0, 0, 0, 0}, {0}}, {{45, 0, 44, 0, 43, 0, 0, 0}, {3}}, {{43, 0, 44, 0, 45, 0, 40, 0, 39, 0}, {3}}};
+    int[][][] looks = {{{0}}, {{40, 0}, {0}}, {{41, 0}, {1}}, {{39, 0}, {0}}, {{9999, 9958}, {1}},
+      {{9999, 9959}, {0}}, {{9999, 9999}, {0}}, {{9999, 0}, {9959}}, {{0, 9999}, {0}}, {{90, 0, 40, 0}, {0}},
+      {{90, 0, 41, 0}, {1}}, {{90, 0, 0, 0, 70, 0}, {30}}, {{90, 0, 0, 0, 40, 0}, {0}},
+      {{41, 1, 60, 20, 90, 0}, {0}}, {{41, 1, 60, 18, 90, 0}, {2}}, {{45, 0, 44, 0, 0, 0, 0, 0}, {0}},
+      {{45, 0, 44, 0, 43, 0, 0, 0}, {3}}, {{43, 0, 44, 0, 45, 0, 40, 0, 39, 0}, {3}}};
     for (int[][] look : looks) {
       RainCover c = complaining(5);
       int[] kin = look.length == 1 ? new int[0] : look[0];
@@ -412,8 +418,8 @@ final class EdgesOfPaying extends Edges {
   }
 
   private static void judgeKin() {
-    says(43, "JUDGED: KIN are all LOOKED AT (as in 4) in that SEASON of FARMS that have its GAUGE then (itself, too; none, if it has "
-        + "no GAUGE);");
+    says(43, "JUDGED: KIN are all LOOKED AT (as in 4) in that SEASON of FARMS that have its GAUGE then (itself, too; "
+        + "none, if it has no GAUGE);");
     RainCover c = complaining(3);
     c.gauge(99, 99, 0);
     c.farm(99, 99, 0, 1);
@@ -531,8 +537,8 @@ final class EdgesOfPaying extends Edges {
   }
 
   private static void complaint() {
-    says(44, "Of a COMPLAINT: 0 the FARM, 1 the SEASON, 2 the TERM (by which the FARM was COVERED when it came), 3 0 open, 1 RIGHT, 2 "
-        + "not, 4 the PAYMENT (-1), 5 how many of KIN there are now.");
+    says(44, "Of a COMPLAINT: 0 the FARM, 1 the SEASON, 2 the TERM (by which the FARM was COVERED when it came), 3 0 "
+        + "open, 1 RIGHT, 2 not, 4 the PAYMENT (-1), 5 how many of KIN there are now.");
     RainCover c = ready();
     Check.term(c, "pay 1 if week 0 > 0");
     c.farm(0, 0, 0, 1);

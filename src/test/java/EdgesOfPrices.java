@@ -102,14 +102,16 @@ final class EdgesOfPrices extends Edges {
   }
 
   private static void price() {
-    says(28, "PRICE (what 0), OWN (1), how many SEASONS are KNOWN (2).", "PRICE: MEAN and LOAD (0 .. 300; 20 at first) of "
-        + "100 of it more, rounded up; OWN: PRICE less SUBSIDY (0 .. 100; 0 at first) of 100 of it, rounded up.");
+    says(28, "PRICE (what 0), OWN (1), how many SEASONS are KNOWN (2).",
+        "PRICE: MEAN and LOAD (0 .. 300; 20 at first) of 100 of it more, rounded up; OWN: PRICE less SUBSIDY (0 .. "
+        + "100; 0 at first) of 100 of it, rounded up.");
     // PAY of two SEASONS, LOAD, SUBSIDY, then PRICE, OWN.
     int[][] prices = {{50, 50, 20, 0, 60, 60}, {0, 0, 300, 0, 0, 0}, {0, 1, 0, 0, 1, 1}, {0, 1, 100, 0, 1, 1},
       {0, 1, 101, 0, 2, 2}, {1, 1, 0, 0, 1, 1}, {1, 1, 1, 0, 2, 2}, {1, 1, 100, 0, 2, 2}, {1, 1, 300, 0, 4, 4},
       {100, 100, 0, 0, 100, 100}, {100, 100, 0, 1, 100, 99}, {100, 100, 1, 1, 101, 100}, {100, 100, 0, 99, 100, 1},
       {100, 100, 0, 100, 100, 0}, {50, 50, 1, 50, 51, 26}, {99, 100, 0, 50, 100, 50}, {1, 1, 0, 99, 1, 1},
-      {1, 1, 0, 100, 1, 0}, {50, 50, 1, 1, 51, 51}, {0, 1, 0, 50, 1, 1}, {100, 100, 300, 100, 400, 0}, {100, 99, 300, 1, 398, 395}};
+      {1, 1, 0, 100, 1, 0}, {50, 50, 1, 1, 51, 51}, {0, 1, 0, 50, 1, 1}, {100, 100, 300, 100, 400, 0},
+      {100, 99, 300, 1, 398, 395}};
     for (int[] p : prices) {
       RainCover c = ready();
       known(c, 3, p[0]);
@@ -147,9 +149,10 @@ final class EdgesOfPrices extends Edges {
   }
 
   private static void trend() {
-    says(29, "TREND: part 0, 1 as of basis() (0 is 0 by 1).", "TREND: over these SEASONS (two at least) the slope of the "
-        + "straight line nearest to PAY (least squares): n times the sum of number by PAY less the sum of numbers times the "
-        + "sum of PAYS, by n times the sum of squares of numbers less the square of their sum.");
+    says(29, "TREND: part 0, 1 as of basis() (0 is 0 by 1).",
+        "TREND: over these SEASONS (two at least) the slope of the straight line nearest to PAY (least squares): n "
+        + "times the sum of number by PAY less the sum of numbers times the sum of PAYS, by n times the sum of "
+        + "squares of numbers less the square of their sum.");
     // The numbers and PAYS of two or more SEASONS, then the TREND above and below the line.
     int[][] seasons = {{0, 15}, {0, 15}, {0, 15}, {14, 15}, {0, 1, 2}, {0, 1, 2}, {1, 4, 6}, {3, 9}, {0, 5, 10, 15}};
     int[][] pays = {{0, 100}, {100, 0}, {7, 7}, {1, 100}, {5, 5, 5}, {1, 0, 0}, {90, 70, 20}, {2, 5}, {0, 100, 0, 100}};
@@ -184,8 +187,9 @@ final class EdgesOfPrices extends Edges {
   }
 
   private static void beside() {
-    says(30, "BESIDE: what 0 .. 3, in the order told.", "BESIDE: of these SEASONS in how many of two TERMS only the first pays "
-        + "(PAY above 0), only the second, both, none.");
+    says(30, "BESIDE: what 0 .. 3, in the order told.",
+        "BESIDE: of these SEASONS in how many of two TERMS only the first pays (PAY above 0), only the second, both, "
+        + "none.");
     RainCover c = ready();
     for (int what = 0; what < 4; what++) due(c.beside(0, 1, 0, 0, 0, what), 0);
     Check.term(c, "pay 1 if week 0 > 95");
@@ -226,8 +230,9 @@ final class EdgesOfPrices extends Edges {
   }
 
   private static void foretold() {
-    says(31, "FORETOLD: what 0 .. 3, in the order told (0 each without such s).", "FORETOLD for a SEASON at a WEEK: for each "
-        + "other SEASON s that is KNOWN of the GAUGE:", ": the least, the greatest, the sum, of how many s.");
+    says(31, "FORETOLD: what 0 .. 3, in the order told (0 each without such s).",
+        "FORETOLD for a SEASON at a WEEK: for each other SEASON s that is KNOWN of the GAUGE:",
+        ": the least, the greatest, the sum, of how many s.");
     RainCover c = rows();
     c.gauge(0, 99, 0);
     Check.even(c, 1, 0, 700);
@@ -251,8 +256,8 @@ final class EdgesOfPrices extends Edges {
   }
 
   private static void foretoldFilledAndGreen() {
-    says(31, "PAY if all WEEKS from that one on were FILLED with what is FILLED in s (GREEN: with that of s), those ahead as "
-        + "they are");
+    says(31, "PAY if all WEEKS from that one on were FILLED with what is FILLED in s (GREEN: with that of s), those "
+        + "ahead as they are");
     RainCover c = rows();
     c.rain(0, 1, 6, -1);
     c.rain(0, 15, 0, -1);
@@ -309,8 +314,9 @@ final class EdgesOfPrices extends Edges {
   }
 
   private static void income() {
-    says(32, "INCOME in a SEASON.", "In a SEASON q: INCOME: over all FARMS COVERED, with a GAUGE, AREA times PRICE of their TERM "
-        + "on it by their PLANT, CROP.");
+    says(32, "INCOME in a SEASON.",
+        "In a SEASON q: INCOME: over all FARMS COVERED, with a GAUGE, AREA times PRICE of their TERM on it by their "
+        + "PLANT, CROP.");
     due(new RainCover().income(0), 0);
     RainCover c = covered();
     for (int q = 0; q < 16; q++) due(c.income(q), 0);
@@ -375,8 +381,8 @@ final class EdgesOfPrices extends Edges {
   }
 
   private static void total() {
-    says(33, "TOTAL of SEASON s for q.", "TOTAL of SEASON s for q: over these AREA times PAY by their TERM and GAUGE in q, on the "
-        + "rows of s.");
+    says(33, "TOTAL of SEASON s for q.",
+        "TOTAL of SEASON s for q: over these AREA times PAY by their TERM and GAUGE in q, on the rows of s.");
     due(new RainCover().total(0, 0), 0);
     RainCover c = covered();
     c.rain(0, 2, 0, 60);
@@ -407,12 +413,13 @@ final class EdgesOfPrices extends Edges {
   }
 
   private static void layer() {
-    says(34, "What a LAYER from a to b (0 .. 2000000000, a at most b) bears of TOTAL: what is above a, b less a at most.");
+    says(34, "What a LAYER from a to b (0 .. 2000000000, a at most b) bears of TOTAL: what is above a, b less a at "
+        + "most.");
     RainCover c = covered();
     c.rain(0, 2, 0, 60);
-    int[][] due = {{0, 0, 0}, {0, 1, 1}, {0, 79, 79}, {0, 80, 80}, {0, 81, 80}, {0, 2000000000, 80}, {1, 80, 79}, {79, 79, 0},
-      {79, 80, 1}, {79, 2000000000, 1}, {80, 80, 0}, {80, 81, 0}, {80, 2000000000, 0}, {10, 20, 10}, {10, 90, 70},
-      {2000000000, 2000000000, 0}};
+    int[][] due = {{0, 0, 0}, {0, 1, 1}, {0, 79, 79}, {0, 80, 80}, {0, 81, 80}, {0, 2000000000, 80}, {1, 80, 79},
+      {79, 79, 0}, {79, 80, 1}, {79, 2000000000, 1}, {80, 80, 0}, {80, 81, 0}, {80, 2000000000, 0}, {10, 20, 10},
+      {10, 90, 70}, {2000000000, 2000000000, 0}};
     for (int[] d : due) due(c.layer(2, 5, d[0], d[1]), d[2]);
     due(c.layer(2, 3, 0, 2000000000), 0);
 
@@ -440,54 +447,41 @@ final class EdgesOfPrices extends Edges {
     return c;
   }
 
-  /** How many of m rows last, by what each YEAR leaves; z[0] goes on. */
-  private static int lasting(int[] z, long reserve, int[] leaves, int n, int m) {
-    int rows = 0;
-    for (int i = 0; i < m; i++) {
-      long rest = reserve;
-      long least = reserve;
-      for (int j = 0; j < n; j++) {
-        z[0] = z[0] * 1103515245 + 12345;
-        rest += leaves[(z[0] >>> 8) % leaves.length];
-        least = Math.min(least, rest);
-      }
-      if (least >= 0) rows++;
-    }
-    return rows;
-  }
-
   private static void throwsOfYears() {
-    says(35, "z becomes this: 1.", "A throw of YEARS: z becomes z * 1103515245 + 12345 (an int; z is told, 1 at first); the YEAR "
-        + "is that of number (z >>> 8) modulo how many, in order.");
+    says(35, "z becomes this: 1.",
+        "A throw of YEARS: z becomes z * 1103515245 + 12345 (an int; z is told, 1 at first); the YEAR is that of "
+        + "number (z >>> 8) modulo how many, in order.");
     int[] leaves = {50, 0, -50};
     RainCover first = threeYears();
     int[] z = {1};
-    for (int i = 0; i < 20; i++) due(first.lasts(0, 0, 1, 1), lasting(z, 0, leaves, 1, 1));
+    for (int i = 0; i < 20; i++) due(first.lasts(0, 0, 1, 1), Check.lasting(z, 0, leaves, 1, 1));
     for (int told : new int[] {0, 1, -1, 2, 7, LOWEST, HIGHEST, 12345, -12345, 1 << 24, -(1 << 24)}) {
       RainCover c = threeYears();
       due(c.lots(told), 1);
       z[0] = told;
       for (int i = 0; i < 10; i++) {
-        due(c.lasts(49, 0, 1, 1), lasting(z, 49, leaves, 1, 1));
-        due(c.lasts(0, 0, 2, 3), lasting(z, 0, leaves, 2, 3));
+        due(c.lasts(49, 0, 1, 1), Check.lasting(z, 49, leaves, 1, 1));
+        due(c.lasts(0, 0, 2, 3), Check.lasting(z, 0, leaves, 2, 3));
       }
       c.lots(told);
       z[0] = told;
-      due(c.lasts(0, 0, 1, 40), lasting(z, 0, leaves, 1, 40));
+      due(c.lasts(0, 0, 1, 40), Check.lasting(z, 0, leaves, 1, 40));
     }
   }
 
   private static void lasts() {
-    says(36, "Of m (1 .. 40) rows of n (1 .. 40) thrown YEARS one behind the other, for q, how many LAST, each from the told "
-        + "RESERVE (0 .. 2000000000).", "LASTS: a RESERVE, as told, gets INCOME and loses TOTAL of the thrown YEAR, n times (all are "
-        + "thrown, whatever comes); it LASTS if it is never below 0 behind one of these.");
+    says(36, "Of m (1 .. 40) rows of n (1 .. 40) thrown YEARS one behind the other, for q, how many LAST, each from "
+        + "the told RESERVE (0 .. 2000000000).",
+        "LASTS: a RESERVE, as told, gets INCOME and loses TOTAL of the thrown YEAR, n times (all are thrown, "
+        + "whatever comes); it LASTS if it is never below 0 behind one of these.");
     int[] leaves = {50, 0, -50};
     int[] z = {1};
     RainCover c = threeYears();
     int[] reserves = {0, 1, 49, 50, 51, 99, 100, 101, 149, 150, 2000000000};
     int[][] sizes = {{1, 1}, {1, 40}, {2, 40}, {3, 7}, {40, 1}, {40, 40}};
     for (int reserve : reserves) {
-      for (int[] size : sizes) due(c.lasts(reserve, 0, size[0], size[1]), lasting(z, reserve, leaves, size[0], size[1]));
+      for (int[] size : sizes) due(c.lasts(reserve, 0, size[0], size[1]), Check.lasting(z, reserve, leaves, size[0],
+          size[1]));
     }
     RainCover even = ready();
     even.law(2, 0);
@@ -500,8 +494,8 @@ final class EdgesOfPrices extends Edges {
     z[0] = 5;
     even.lots(5);
     int[] great = {99 * 50 - 9900, 99 * 50};
-    due(even.lasts(4949, 3, 40, 40), lasting(z, 4949, great, 40, 40));
-    due(even.lasts(4950, 3, 40, 40), lasting(z, 4950, great, 40, 40));
+    due(even.lasts(4949, 3, 40, 40), Check.lasting(z, 4949, great, 40, 40));
+    due(even.lasts(4950, 3, 40, 40), Check.lasting(z, 4950, great, 40, 40));
     due(even.lasts(2000000000, 3, 40, 40), 40);
     RainCover most = new RainCover();
     most.gauge(0, 0, 0);
@@ -518,8 +512,8 @@ final class EdgesOfPrices extends Edges {
   }
 
   private static void years() {
-    says(36, "YEARS for q: SEASONS that are KNOWN of all GAUGES that are STANDING in q (there is one such GAUGE at least).",
-        "STATE: there are no YEARS.");
+    says(36, "YEARS for q: SEASONS that are KNOWN of all GAUGES that are STANDING in q (there is one such GAUGE at "
+        + "least).", "STATE: there are no YEARS.");
     due(new RainCover().lasts(0, 0, 1, 1), STATE);
     RainCover c = ready();
     c.gauge(0, 0, 5);
@@ -552,8 +546,8 @@ final class EdgesOfPrices extends Edges {
   /** What each of the next throws of threeYears() is, one by one: it LASTS from 0 but for the third YEAR. */
   private static void goesOnFrom(RainCover c, int told) {
     int[] z = {told};
-    for (int i = 0; i < 20; i++) due(c.lasts(0, 0, 1, 1), lasting(z, 0, new int[] {50, 0, -50}, 1, 1));
-    for (int i = 0; i < 20; i++) due(c.lasts(49, 0, 2, 1), lasting(z, 49, new int[] {50, 0, -50}, 2, 1));
+    for (int i = 0; i < 20; i++) due(c.lasts(0, 0, 1, 1), Check.lasting(z, 0, new int[] {50, 0, -50}, 1, 1));
+    for (int i = 0; i < 20; i++) due(c.lasts(49, 0, 2, 1), Check.lasting(z, 49, new int[] {50, 0, -50}, 2, 1));
   }
 
   private static void lastsRefused() {

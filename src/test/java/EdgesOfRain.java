@@ -141,7 +141,8 @@ final class EdgesOfRain extends Edges {
   }
 
   private static void lawFirsts() {
-    String[] words = {"REACH (0 .. 198; 40 at first)", "SLACK (0 .. 9999; 500 at first)", "LOAD (0 .. 300; 20 at first)",
+    String[] words = {"REACH (0 .. 198; 40 at first)", "SLACK (0 .. 9999; 500 at first)", "LOAD (0 .. 300; 20 at "
+        + "first)",
       "SUBSIDY (0 .. 100; 0 at first)"};
     int[] most = {198, 9999, 300, 100};
     int[] first = {40, 500, 20, 0};
@@ -604,15 +605,16 @@ final class EdgesOfRain extends Edges {
   }
 
   private static void odd() {
-    says(12, "How many WEEKS of a SEASON have ODD RAIN, as known now.", "ODD is its RAIN, if there is such a one and it "
-        + "is more than SLACK", "below the LEAST, or above the GREATEST.");
+    says(12, "How many WEEKS of a SEASON have ODD RAIN, as known now.",
+        "ODD is its RAIN, if there is such a one and it is more than SLACK", "below the LEAST, or above the GREATEST.");
     RainCover c = ready();
     c.gauge(0, 40, 0);
     c.rain(0, 0, 0, 9999);
     due(c.odd(0, 0), 0);
     c.rain(1, 0, 0, 1000);
     c.rain(2, 0, 0, 2000);
-    int[][] odds = {{499, 1}, {500, 0}, {1000, 0}, {1500, 0}, {2000, 0}, {2500, 0}, {2501, 1}, {0, 1}, {9999, 1}, {-1, 0}};
+    int[][] odds = {{499, 1}, {500, 0}, {1000, 0}, {1500, 0}, {2000, 0}, {2500, 0}, {2501, 1}, {0, 1}, {9999, 1},
+      {-1, 0}};
     for (int[] odd : odds) {
       c.rain(0, 0, 0, odd[0]);
       due(c.odd(0, 0), odd[1]);

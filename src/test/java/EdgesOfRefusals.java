@@ -23,7 +23,8 @@ final class EdgesOfRefusals extends Edges {
   }
 
   private static void constants() {
-    says(2, "Answers: NONE (-1) there is no such number; BAD (-2) a number is not as told; STATE (-3) as told; FULL (-4);");
+    says(2, "Answers: NONE (-1) there is no such number; BAD (-2) a number is not as told; STATE (-3) as told; FULL "
+        + "(-4);");
     due(RainCover.NONE, -1);
     due(RainCover.BAD, -2);
     due(RainCover.STATE, -3);
@@ -176,11 +177,12 @@ final class EdgesOfRefusals extends Edges {
     long[] before = probe(rich());
     for (ToLongFunction<RainCover> change : Arrays.<ToLongFunction<RainCover>>asList(
         c -> c.gauge(0, 0, 0), c -> c.down(0, 0), c -> c.law(0, 44), c -> c.law(3, 7), c -> c.rain(2, 1, 10, 3),
-        c -> c.green(2, 0, 1, 3), c -> c.lay(2, 1, 0, 2, 0), c -> c.feed('x', 1), c -> c.term(), c -> c.farm(0, 0, 0, 1),
-        c -> c.plant(3, 1), c -> c.enroll(2, 0, 9), c -> c.lapse(1, 9), c -> c.look(0, 0, 91, 10), c -> c.site(0, 0),
-        c -> c.lots(8), c -> c.settle(5), c -> c.fund(1), c -> c.send(0), c -> c.arrive(2, 0), c -> c.complain(0, 5),
-        c -> c.judge(1), c -> c.group(2, 1), c -> c.vote(2, 1), c -> c.act(0, 0, 0), c -> c.sheet(2, 0, 1),
-        c -> c.sheet(0, -1, 0), c -> c.cell(0, 3, 9), c -> c.copy(0, 0, 0, 1, 5))) {
+        c -> c.green(2, 0, 1, 3), c -> c.lay(2, 1, 0, 2, 0), c -> c.feed('x', 1), c -> c.term(),
+        c -> c.farm(0, 0, 0, 1), c -> c.plant(3, 1), c -> c.enroll(2, 0, 9), c -> c.lapse(1, 9),
+        c -> c.look(0, 0, 91, 10), c -> c.site(0, 0), c -> c.lots(8), c -> c.settle(5), c -> c.fund(1),
+        c -> c.send(0), c -> c.arrive(2, 0), c -> c.complain(0, 5), c -> c.judge(1), c -> c.group(2, 1),
+        c -> c.vote(2, 1), c -> c.act(0, 0, 0), c -> c.sheet(2, 0, 1), c -> c.sheet(0, -1, 0), c -> c.cell(0, 3, 9),
+        c -> c.copy(0, 0, 0, 1, 5))) {
       RainCover c = rich();
       change.applyAsLong(c);
       due(firstUnlike(probe(c), before) >= 0 ? 1 : 0, 1);

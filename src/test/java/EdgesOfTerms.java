@@ -83,9 +83,9 @@ final class EdgesOfTerms extends Edges {
   }
 
   private static void soundTexts() {
-    says(14, "THE TAPE is a TERM: its number;", "A TERM is read from", ", with one blank between words: pay N if CASE, or "
-        + "up to 4 CASES with and between; or: rate N per K below M of sum A to B max P.",
-        "CASE: sum A to B OP N, or dry A to B OP N, or green A to B OP N, or week A OP N.");
+    says(14, "THE TAPE is a TERM: its number;", "A TERM is read from",
+        ", with one blank between words: pay N if CASE, or up to 4 CASES with and between; or: rate N per K below M "
+        + "of sum A to B max P.", "CASE: sum A to B OP N, or dry A to B OP N, or green A to B OP N, or week A OP N.");
     RainCover c = new RainCover();
     for (int i = 0; i < SOUND.length; i++) due(Check.term(c, SOUND[i]), i);
     due(c.count(2), SOUND.length);
@@ -110,10 +110,11 @@ final class EdgesOfTerms extends Edges {
       " below 1 of sum 0 to 1 max 1", " of sum 0 to 1 max 1", ""};
     for (int i = 0; i < long4.length; i++) digits(long4[i], rest4[i], 4);
     says(14, "A, B: 1 or 2 digits;");
-    String[] long2 = {"pay 1 if week #", "pay 1 if sum #", "pay 1 if sum 0 to #", "pay 1 if dry #", "pay 1 if dry 0 to #",
-      "pay 1 if green #", "pay 1 if green 0 to #", "rate 1 per 1 below 1 of sum #",
+    String[] long2 = {"pay 1 if week #", "pay 1 if sum #", "pay 1 if sum 0 to #", "pay 1 if dry #",
+      "pay 1 if dry 0 to #", "pay 1 if green #", "pay 1 if green 0 to #", "rate 1 per 1 below 1 of sum #",
       "rate 1 per 1 below 1 of sum 0 to #"};
-    String[] rest2 = {" > 0", " to 11 < 1", " < 1", " to 11 < 1", " < 1", " to 11 < 1", " < 1", " to 11 max 1", " max 1"};
+    String[] rest2 = {" > 0", " to 11 < 1", " < 1", " to 11 < 1", " < 1", " to 11 < 1", " < 1",
+      " to 11 max 1", " max 1"};
     for (int i = 0; i < long2.length; i++) digits(long2[i], rest2[i], 2);
     says(14, "OP: < or >.");
     due(read("pay 1 if week 0 < 0"), 0);
@@ -187,7 +188,8 @@ final class EdgesOfTerms extends Edges {
       due(read(text), 0);
     }
     RainCover c = new RainCover();
-    Check.feed(c, "pay 9999 if green 00 to 11 < 9999 and green 00 to 11 < 9999 and green 00 to 11 < 9999 and green 00 ");
+    String tooLong = "pay 9999 if green 00 to 11 < 9999 and green 00 to 11 < 9999 and green 00 to 11 < 9999";
+    Check.feed(c, tooLong + " and green 00 ");
     due(c.feed('t', 1), 100);
     due(c.term(), -110);
     due(c.count(8), 0);
@@ -305,8 +307,8 @@ final class EdgesOfTerms extends Edges {
   }
 
   private static void payByDry() {
-    says(15, "DRY: the greatest number of WEEKS that follow one another, count, and are FILLED with less than DRYNESS of "
-        + "the CROP.", "dry: DRY OP N;", "DRYNESS 100, 80, 120, 60.");
+    says(15, "DRY: the greatest number of WEEKS that follow one another, count, and are FILLED with less than "
+        + "DRYNESS of the CROP.", "dry: DRY OP N;", "DRYNESS 100, 80, 120, 60.");
     int[] dryness = {100, 80, 120, 60};
     for (int crop = 0; crop < 4; crop++) {
       RainCover c = ready("pay 1 if dry 2 to 2 > 0");
@@ -342,8 +344,8 @@ final class EdgesOfTerms extends Edges {
   }
 
   private static void payByGreen() {
-    says(15, "green: the greatest GREEN of the GAUGE's DISTRICT in the WEEKS that count and are no GAPS OP N (not so, if "
-        + "there are none);");
+    says(15, "green: the greatest GREEN of the GAUGE's DISTRICT in the WEEKS that count and are no GAPS OP N (not "
+        + "so, if there are none);");
     RainCover c = ready("pay 3 if green 2 to 4 < 50", "pay 4 if green 2 to 4 > 50", "pay 5 if green 3 to 3 < 1",
         "pay 6 if green 3 to 3 > 0", "pay 7 if green 0 to 11 < 9999");
     for (int term = 0; term < 5; term++) due(c.pay(term, 0, 0, 0, 0), 0);
@@ -406,10 +408,10 @@ final class EdgesOfTerms extends Edges {
         "rate 9999 per 1 below 9999 of sum 0 to 1 max 9999", "rate 7 per 101 below 100 of sum 0 to 1 max 99",
         "rate 7 per 100 below 100 of sum 0 to 1 max 99", "rate 0 per 1 below 100 of sum 0 to 1 max 99",
         "rate 7 per 1 below 0 of sum 0 to 1 max 99", "rate 7 per 1 below 100 of sum 0 to 1 max 0");
-    int[][] sums = {{0, 33, 25, 9999, 0, 7}, {1, 33, 25, 9999, 0, 0}, {30, 33, 25, 9999, 0, 0}, {31, 30, 25, 9999, 0, 0},
-      {40, 30, 25, 9999, 0, 0}, {50, 25, 25, 9999, 0, 0}, {51, 20, 20, 9999, 0, 0}, {90, 5, 5, 9999, 0, 0},
-      {91, 0, 0, 9999, 0, 0}, {99, 0, 0, 9999, 0, 0}, {100, 0, 0, 9999, 0, 0}, {101, 0, 0, 9999, 0, 0},
-      {9998, 0, 0, 9999, 0, 0}, {9999, 0, 0, 0, 0, 0}};
+    int[][] sums = {{0, 33, 25, 9999, 0, 7}, {1, 33, 25, 9999, 0, 0}, {30, 33, 25, 9999, 0, 0},
+      {31, 30, 25, 9999, 0, 0}, {40, 30, 25, 9999, 0, 0}, {50, 25, 25, 9999, 0, 0}, {51, 20, 20, 9999, 0, 0},
+      {90, 5, 5, 9999, 0, 0}, {91, 0, 0, 9999, 0, 0}, {99, 0, 0, 9999, 0, 0}, {100, 0, 0, 9999, 0, 0},
+      {101, 0, 0, 9999, 0, 0}, {9998, 0, 0, 9999, 0, 0}, {9999, 0, 0, 0, 0, 0}};
     for (int[] sum : sums) {
       c.rain(0, 0, 1, sum[0]);
       for (int term = 0; term < 8; term++) due(c.pay(term, 0, 0, 0, 0), term < 5 ? sum[term + 1] : 0);
@@ -419,8 +421,8 @@ final class EdgesOfTerms extends Edges {
   }
 
   private static void payBeyondTheLastWeek() {
-    says(15, "By a GAUGE, SEASON, PLANT p and CROP, as known at k: WEEK w of a TERM is WEEK w + p; those beyond 11 do not "
-        + "count.");
+    says(15, "By a GAUGE, SEASON, PLANT p and CROP, as known at k: WEEK w of a TERM is WEEK w + p; those beyond 11 "
+        + "do not count.");
     RainCover c = ready("rate 1 per 1 below 9999 of sum 7 to 11 max 9999", "pay 1 if sum 7 to 11 < 1",
         "pay 1 if dry 7 to 11 > 0", "pay 1 if dry 7 to 11 < 1", "pay 1 if green 7 to 11 < 9999",
         "pay 1 if green 7 to 11 > 0", "pay 1 if week 7 < 9999", "pay 1 if week 7 > 0");
@@ -437,7 +439,8 @@ final class EdgesOfTerms extends Edges {
       due(c.pay(3, 0, 0, plant, 0), some ? 0 : 1);
       for (int term = 4; term < 8; term++) due(c.pay(term, 0, 0, plant, 0), some ? 1 : 0);
     }
-    RainCover d = ready("pay 1 if dry 0 to 11 > 6", "pay 1 if dry 0 to 11 > 7", "rate 1 per 1 below 999 of sum 0 to 0 max 999");
+    RainCover d = ready("pay 1 if dry 0 to 11 > 6", "pay 1 if dry 0 to 11 > 7",
+        "rate 1 per 1 below 999 of sum 0 to 0 max 999");
     for (int week = 0; week < 12; week++) d.rain(0, 0, week, week);
     due(d.pay(0, 0, 0, 5, 0), 1);
     due(d.pay(1, 0, 0, 5, 0), 0);

@@ -275,22 +275,6 @@ public final class PricesTest {
     Check.due("36: m", c.lasts(0, 1, 1, 41), RainCover.BAD);
   }
 
-  /** How many of m rows last, by throws of two YEARS with what each leaves; z[0] goes on. */
-  private static int lasting(int[] z, long reserve, int[] leaves, int n, int m) {
-    int rows = 0;
-    for (int i = 0; i < m; i++) {
-      long rest = reserve;
-      long least = reserve;
-      for (int j = 0; j < n; j++) {
-        z[0] = z[0] * 1103515245 + 12345;
-        rest += leaves[(z[0] >>> 8) % leaves.length];
-        least = Math.min(least, rest);
-      }
-      if (least >= 0) rows++;
-    }
-    return rows;
-  }
-
   private static void reserve() {
     RainCover c = twoFarms();
     c.law(2, 0);
@@ -299,19 +283,19 @@ public final class PricesTest {
     int[] z = {1};
     int[][] asked = {{0, 1, 40}, {100, 5, 40}, {135, 1, 9}, {134, 1, 9}, {300, 40, 40}, {1000, 40, 40}};
     for (int[] a : asked) {
-      Check.due("36: reserve " + a[0], c.lasts(a[0], 3, a[1], a[2]), lasting(z, a[0], leaves, a[1], a[2]));
+      Check.due("36: reserve " + a[0], c.lasts(a[0], 3, a[1], a[2]), Check.lasting(z, a[0], leaves, a[1], a[2]));
     }
     int[] told = {0, 7, -1, Integer.MIN_VALUE, 123456789};
     for (int first : told) {
       Check.due("35: told", c.lots(first), 1);
       z[0] = first;
-      Check.due("36: from " + first, c.lasts(200, 3, 7, 33), lasting(z, 200, leaves, 7, 33));
+      Check.due("36: from " + first, c.lasts(200, 3, 7, 33), Check.lasting(z, 200, leaves, 7, 33));
     }
     z[0] = 5;
     c.lots(5);
     c.lasts(0, 16, 1, 1);
     c.lasts(0, 3, 41, 1);
-    Check.due("36: what is refused throws nothing", c.lasts(150, 3, 3, 40), lasting(z, 150, leaves, 3, 40));
+    Check.due("36: what is refused throws nothing", c.lasts(150, 3, 3, 40), Check.lasting(z, 150, leaves, 3, 40));
   }
 
   private static void greatReserve() {
