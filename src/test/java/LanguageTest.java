@@ -19,6 +19,10 @@ public final class LanguageTest {
     "\\bObject\\b", "\\bException\\b", "\\bThread\\b", "\\bdouble\\b", "\\bfloat\\b", "Exact\\b", "\\bequals\\b",
   };
 
+  /** What the program takes of rule 4's list; it may take more of it. */
+  private static final Set<String> LIBRARY = Set.of("Math.abs", "Math.min", "Math.max", "Integer.bitCount",
+      "Long.MIN_VALUE", "Arrays.fill", "System.arraycopy");
+
   public static void main(String[] args) throws IOException {
     face();
     nestedClasses();
@@ -79,6 +83,8 @@ public final class LanguageTest {
     String path = System.getenv("RAINCOVER_SOURCE");
     String text = Files.readString(Path.of(path == null ? "src/main/java/RainCover.java" : path));
     String code = text.replaceAll("(?s)/\\*.*?\\*/", "").replaceAll("//[^\n]*", "");
+    library(code);
+    depths(code);
     for (String forbidden : FORBIDDEN) {
       Check.due("rule 6: no " + forbidden, Pattern.compile(forbidden).matcher(code).find() ? 1 : 0, 0);
     }
@@ -88,6 +94,26 @@ public final class LanguageTest {
       Check.due("rule 4: import " + imports.group(1), listed ? 1 : 0, 1);
     }
     Check.due("rule 4: signs 1 to 127", text.chars().allMatch(sign -> sign >= 1 && sign <= 127) ? 1 : 0, 1);
+  }
+
+  private static void library(String code) {
+    Matcher used = Pattern.compile("\\b(Math|Integer|Long|Arrays|System|String|List)\\.(\\w+)").matcher(code);
+    while (used.find()) {
+      boolean listed = LIBRARY.contains(used.group());
+      Check.due("rule 4: " + used.group(), listed ? 1 : 0, 1);
+    }
+  }
+
+  private static void depths(String code) {
+    Calls calls = new Calls(code);
+    Check.due("rule 11: methods that were read", calls.methods().size() > 100 ? 1 : 0, 1);
+    for (Method m : RainCover.class.getDeclaredMethods()) {
+      Check.due("rule 11: read: " + m.getName(), calls.methods().contains("RainCover." + m.getName()) ? 1 : 0, 1);
+    }
+    for (String method : calls.methods()) {
+      Check.due("rule 11: short: " + method, calls.linesOf(method) <= 60 ? 1 : 0, 1);
+      Check.due("rule 11: at most eight deep: " + method, Math.max(calls.depthOf(method), 8), 8);
+    }
   }
 
   /** A run of the dearest calls, the second time, when the machine itself has what it needs. */
